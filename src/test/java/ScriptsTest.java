@@ -1,0 +1,203 @@
+/** Promises 30 and 31: scripts, simulations. */
+public final class ScriptsTest {
+    public static void main(String[] args) {
+        arguments();
+        rideAndPay();
+        lineRunCopy();
+        questions();
+        order();
+        simulate();
+        Check.end();
+    }
+
+    private static void script(OfflineGates x, int n, long script, int want) {
+        Check.due("runScript(" + n + ", " + script + ")", x.runScript(n, script), want);
+    }
+
+    // Promise 30
+    private static void arguments() {
+        OfflineGates x = new OfflineGates();
+        Check.badArgument("n 0", () -> x.runScript(0, 0));
+        Check.badArgument("n 4", () -> x.runScript(4, 0));
+        Check.badArgument("n -1", () -> x.runScript(-1, 0));
+        Check.badArgument("below 0", () -> x.runScript(1, -1));
+        Check.badArgument("MIN", () -> x.runScript(3, Long.MIN_VALUE));
+        Check.badArgument("5 digits", () -> x.runScript(1, 10000));
+        Check.badArgument("9 digits", () -> x.runScript(2, 100000000L));
+        Check.badArgument("13 digits", () -> x.runScript(3, 1000000000000L));
+        Check.badArgument("MAX", () -> x.runScript(3, Long.MAX_VALUE));
+        script(x, 1, 9999, 0);
+        script(x, 2, 99999999L, 0);
+        script(x, 3, 999999999999L, 0);
+        script(x, 1, 0, 0);
+        script(x, 3, 0, 0);
+        script(x, 1, 4001, -1);
+        script(x, 2, 4001, 0);
+        script(x, 2, 40014001, -1);
+    }
+
+    private static void rideAndPay() {
+        OfflineGates x = Check.day("Oi30i00c0r00o2");
+        String before = Check.picture(x);
+        script(x, 1, 1000, 0);
+        script(x, 2, 40051000, -1);
+        script(x, 2, 40041000, 1);
+        script(x, 1, 1020, -1);
+        script(x, 1, 1021, 0);
+        script(x, 1, 1040, 0);
+        script(x, 1, 1300, 0);
+        script(x, 1, 1100, 0);
+        script(x, 2, 21021100, -1);
+        script(x, 2, 21011100, 1);
+        script(x, 1, 2000, 0);
+        script(x, 1, 2001, -1);
+        script(x, 1, 2199, -1);
+        script(x, 1, 2201, 0);
+        script(x, 1, 2801, 0);
+        script(x, 2, 12009001, -1);
+        script(x, 2, 12009000, 1);
+        script(x, 3, 120060016000L, 2);
+        Check.same("scripts change nothing", Check.picture(x), before);
+    }
+
+    private static void lineRunCopy() {
+        OfflineGates x = Check.day("Oi50d1r01");
+        String before = Check.picture(x);
+        script(x, 1, 3000, -1);
+        script(x, 1, 3001, 0);
+        script(x, 1, 3100, 0);
+        script(x, 1, 3101, -1);
+        script(x, 1, 3102, 0);
+        script(x, 1, 3002, 0);
+        script(x, 1, 3111, 0);
+        script(x, 1, 3010, 0);
+        script(x, 1, 3400, 0);
+        script(x, 1, 3401, 0);
+        script(x, 3, 300030013000L, -1);
+        script(x, 3, 300030003001L, 1);
+        script(x, 2, 31017100, -1);
+        script(x, 1, 4000, 0);
+        script(x, 1, 4001, -1);
+        script(x, 1, 4060, -1);
+        script(x, 1, 4061, 0);
+        script(x, 1, 4101, 0);
+        script(x, 1, 5000, -1);
+        script(x, 1, 5001, 0);
+        script(x, 1, 5010, 0);
+        script(x, 1, 5100, 0);
+        script(x, 3, 500051005200L, -1);
+        script(x, 3, 500051005300L, 2);
+        Check.same("scripts change nothing", Check.picture(x), before);
+        for (int i = 0; i < 9; i++) {
+            x.copy(0);
+        }
+        script(x, 1, 5000, 0);
+    }
+
+    private static void questions() {
+        OfflineGates x = Check.day("Oi05c0r00r10i09d1r21");
+        script(x, 1, 6001, -1);
+        script(x, 1, 6000, 0);
+        script(x, 1, 6100, -1);
+        script(x, 1, 6101, 0);
+        script(x, 1, 6002, 0);
+        script(x, 1, 6102, 0);
+        script(x, 1, 6110, 0);
+        script(x, 1, 6200, 0);
+        script(x, 1, 6201, 0);
+        script(x, 1, 7100, 0);
+        script(x, 1, 7101, -1);
+        script(x, 1, 7199, -1);
+        script(x, 1, 7000, -1);
+        script(x, 1, 7400, 0);
+        script(x, 1, 7499, 0);
+        script(x, 1, 8003, -1);
+        script(x, 1, 8004, 0);
+        script(x, 1, 8207, -1);
+        script(x, 1, 8300, 0);
+        script(x, 1, 9000, 0);
+        script(x, 1, 9001, -1);
+        script(x, 1, 9099, -1);
+        script(x, 1, 9101, 0);
+        script(x, 1, 100, 0);
+        OfflineGates y = Check.day("Oi01d0r00");
+        script(y, 1, 8000, 0);
+    }
+
+    private static void order() {
+        OfflineGates x = Check.day("Oi50");
+        script(x, 3, 100010004005L, 1);
+        script(x, 3, 100040051000L, -1);
+        script(x, 3, 600080486001L, 2);
+        script(x, 3, 100080486000L, -1);
+        script(x, 3, 100080490000L, 1);
+        script(x, 3, 10004005L, 0);
+        script(x, 3, 500011001000L, -1);
+        script(x, 3, 500010001100L, -1);
+    }
+
+    // Promise 31
+    private static void simulate() {
+        OfflineGates empty = new OfflineGates();
+        Check.badArgument("m 0", () -> empty.simulate(1, 0));
+        Check.badArgument("m 81", () -> empty.simulate(1, 81));
+        Check.badArgument("m -1", () -> empty.simulate(1, -1));
+        String[] days = {"O", "Oi50i40i30c0c1", "Oi99i99c0c1d0d1r00r11r20r31m09", "Oi50i50c0o1d2r02r12u2"};
+        long[] seeds = {0, 1, -1, 42, 77777, Long.MIN_VALUE, Long.MAX_VALUE, 123456789012345L, -987654321L};
+        int most = 0;
+        for (String day : days) {
+            for (long seed : seeds) {
+                for (int m : new int[] {1, 2, 17, 79, 80}) {
+                    OfflineGates x = Check.day(day);
+                    x.set(1, 1);
+                    String before = Check.picture(x);
+                    int got = x.simulate(seed, m);
+                    Check.same("simulate changes nothing", Check.picture(x), before);
+                    Check.due("simulate(" + seed + ", " + m + ") of " + day, got, byCalls(x, seed, m));
+                    most = Math.max(most, got % 1000);
+                }
+            }
+        }
+        Check.isTrue("some simulation had doubles", most > 0);
+    }
+
+    /** The same turns by calls of the face. */
+    private static int byCalls(OfflineGates x, long seed, int m) {
+        int settled = x.about(3);
+        int doubles = x.about(5);
+        long s = seed;
+        for (int i = 0; i < m; i++) {
+            s = s * 6364136223846793005L + 1442695040888963407L;
+            int r = (int) (s >>> 33);
+            try {
+                turn(x, r);
+            } catch (IndexOutOfBoundsException | IllegalArgumentException | IllegalStateException e) {
+                continue;
+            }
+        }
+        return 1000 * (x.about(3) - settled) + x.about(5) - doubles;
+    }
+
+    private static void turn(OfflineGates x, int r) {
+        int kind = r % 16;
+        if (kind == 0) {
+            x.issue(r / 16 % 40);
+        } else if (kind == 1) {
+            x.copy(r / 16 % 10);
+        } else if (kind == 2) {
+            x.down(r / 16 % 4);
+        } else if (kind == 3) {
+            x.up(r / 16 % 4);
+        } else if (kind == 4) {
+            x.pay(r / 16 % 8, 1 + r / 128 % 30);
+        } else if (kind == 5) {
+            x.open(r / 16 % 4);
+        } else if (kind == 6) {
+            x.pardon(r / 16 % 8);
+        } else if (kind == 7 || kind == 8) {
+            x.run(1 + r / 16 % 20);
+        } else {
+            x.ride(r / 16 % 10, r / 256 % 4);
+        }
+    }
+}

@@ -1,0 +1,206 @@
+/** Promises 1 to 5: a new object, and the text. */
+public final class TextTest {
+    public static void main(String[] args) {
+        newObject();
+        append();
+        clearText();
+        errorPosition();
+        load();
+        Check.end();
+    }
+
+    // Promise 1
+    private static void newObject() {
+        OfflineGates x = new OfflineGates();
+        for (int what = 0; what <= 10; what++) {
+            Check.due("new about(" + what + ")", x.about(what), 0);
+        }
+        for (int g = 0; g < 4; g++) {
+            Check.due("new fare", x.gate(g, 0), 2);
+            Check.due("new line", x.gate(g, 1), 1);
+            Check.due("new open", x.gate(g, 2), 0);
+            Check.due("new log", x.gate(g, 3), 0);
+            Check.due("new list", x.gate(g, 4), 0);
+        }
+        Check.due("new credit", x.setting(0), 10);
+        Check.due("new pause", x.setting(1), 5);
+        Check.due("new full log", x.setting(2), 0);
+        Check.due("new fine", x.setting(3), 20);
+        Check.due("new text", x.clearText(), 0);
+        Check.badState("new undo", x::undo);
+        Check.badState("new restore", () -> x.restore(0));
+        Check.noSuch("new card", () -> x.card(0, 0));
+        Check.noSuch("new account", () -> x.account(0, 0));
+        Check.due("NONE", OfflineGates.NONE, -1);
+    }
+
+    // Promise 2
+    private static void append() {
+        OfflineGates x = new OfflineGates();
+        Check.badArgument("append(-1)", () -> x.append(-1));
+        Check.badArgument("append(256)", () -> x.append(256));
+        Check.badArgument("append(MIN)", () -> x.append(Integer.MIN_VALUE));
+        Check.due("append(0)", x.append(0), 1);
+        Check.due("append(255)", x.append(255), 2);
+        for (int i = 3; i <= 120; i++) {
+            Check.due("append", x.append('O'), i);
+        }
+        Check.badState("append to 120", () -> x.append('O'));
+        Check.badArgument("append(256) to 120", () -> x.append(256));
+        Check.due("full text", x.clearText(), 120);
+    }
+
+    // Promise 3
+    private static void clearText() {
+        OfflineGates x = new OfflineGates();
+        Check.due("clearText", x.clearText(), 0);
+        Check.write(x, "Od0");
+        Check.due("clearText", x.clearText(), 3);
+        Check.due("clearText", x.clearText(), 0);
+        Check.due("append then", x.append('O'), 1);
+        Check.due("a day again", x.errorPosition(), -1);
+    }
+
+    // Promise 4
+    private static void errorPosition() {
+        error("", 0);
+        error("o", 0);
+        error(" O", 0);
+        error("O", -1);
+        error("OO", 1);
+        error("O ", 1);
+        error("Ox", 1);
+        error("O5", 1);
+        error("Oi", 2);
+        error("Oi0", 3);
+        error("Oi00", -1);
+        error("Oi99", -1);
+        error("Oi9a", 3);
+        error("Oi/0", 2);
+        error("Oi:0", 2);
+        error("Oc9", -1);
+        error("Oc", 2);
+        error("Ocx", 2);
+        error("Or93", -1);
+        error("Or94", 3);
+        error("Or9", 3);
+        error("Or", 2);
+        error("Or 3", 2);
+        error("Ot799", -1);
+        error("Ot701", -1);
+        error("Ot700", 4);
+        error("Ot710", -1);
+        error("Ot8", 2);
+        error("Ot801", 2);
+        error("Ot7", 3);
+        error("Ot70", 4);
+        error("Ot7x1", 3);
+        for (char letter : new char[] {'d', 'u', 'o'}) {
+            error("O" + letter, 2);
+            error("O" + letter + "3", -1);
+            error("O" + letter + "4", 2);
+            error("O" + letter + "0" + letter + "9", 4);
+        }
+        error("Om01", -1);
+        error("Om60", -1);
+        error("Om00", 3);
+        error("Om61", 3);
+        error("Om59", -1);
+        error("Om10", -1);
+        error("Om7", 2);
+        error("Om6", 3);
+        error("Oi05c0r00t001d0u0o0m05", -1);
+        error("Oi05c0r00t001d0u0o0m05p", 22);
+        error("Oi05c0 r00", 6);
+    }
+
+    private static void error(String text, int want) {
+        OfflineGates x = new OfflineGates();
+        Check.write(x, text);
+        Check.due("errorPosition of '" + text + "'", x.errorPosition(), want);
+        Check.due("the text stays", x.clearText(), text.length());
+    }
+
+    // Promise 5
+    private static void load() {
+        OfflineGates x = new OfflineGates();
+        x.issue(7);
+        Check.badState("load without a text", x::load);
+        Check.write(x, "Om6");
+        Check.badState("load of no day", x::load);
+        Check.due("nothing changed", x.about(0), 1);
+        Check.due("undo is kept", x.undo(), 0);
+        x.clearText();
+
+        x.issue(7);
+        x.set(0, 1);
+        x.set(1, 2);
+        x.set(2, 1);
+        x.set(3, 3);
+        x.fare(3, 9);
+        x.open(2);
+        x.ride(0, 2);
+        x.down(1);
+        x.ride(0, 1);
+        x.run(60);
+        x.save(0);
+        x.save(1);
+        Check.write(x, "O");
+        Check.due("load O", x.load(), 0);
+        Check.same("as a new object", Check.picture(x), Check.picture(new OfflineGates()));
+        Check.badState("undo behind load", x::undo);
+        Check.badState("slot 0 behind load", () -> x.restore(0));
+        Check.badState("slot 1 behind load", () -> x.restore(1));
+        Check.due("the text is kept", x.clearText(), 1);
+
+        commands();
+        leftOut();
+        settledAgain();
+    }
+
+    private static void commands() {
+        OfflineGates x = new OfflineGates();
+        Check.write(x, "Oi12i34c0r00d1m06r11o2r22t205t105u1m60");
+        Check.due("left out", x.load(), 1);
+        Check.badState("undo behind load", x::undo);
+        OfflineGates y = new OfflineGates();
+        y.issue(12);
+        y.issue(34);
+        y.copy(0);
+        y.ride(0, 0);
+        y.down(1);
+        y.run(6);
+        y.ride(1, 1);
+        y.open(2);
+        y.ride(2, 2);
+        y.pay(1, 5);
+        y.up(1);
+        y.run(60);
+        Check.same("the same day by calls", Check.picture(x), Check.picture(y));
+    }
+
+    private static void leftOut() {
+        OfflineGates x = new OfflineGates();
+        Check.write(x, "Oc0r00t001u0d0d0u0");
+        Check.due("copy, ride, pay, up, down left out", x.load(), 5);
+        x.clearText();
+        Check.write(x, "Oi01i01i01i01i01i01i01i01i01c0c9c0c0");
+        Check.due("9th account, card 9 before it is there, 11th card", x.load(), 3);
+        Check.due("cards", x.about(0), 10);
+        Check.due("accounts", x.about(1), 8);
+        x.clearText();
+        Check.write(x, "Oi00r00r00");
+        Check.due("refused rides are not left out", x.load(), 0);
+        Check.due("refused", x.about(8), 2);
+        Check.due("load again", x.load(), 0);
+        Check.due("refused again", x.about(8), 2);
+    }
+
+    private static void settledAgain() {
+        OfflineGates x = Check.day("Oi50r00m05r00");
+        Check.due("settled", x.about(3), 2);
+        x.load();
+        Check.due("no doubles behind another load", x.about(5), 0);
+        Check.due("settled", x.account(0, 2), 2);
+    }
+}
