@@ -4,6 +4,7 @@ public final class ActionsTest {
         issue();
         copy();
         rideSettled();
+        rideManyCounts();
         rideOrder();
         rideWaiting();
         rideDown();
@@ -85,7 +86,7 @@ public final class ActionsTest {
         Check.noSuch("ride(0, -1)", () -> x.ride(0, -1));
         Check.noSuch("ride(-1, 0)", () -> x.ride(-1, 0));
         Check.noSuch("ride(1, 0)", () -> x.ride(1, 0));
-        Check.due("nothing to undo", x.about(8), 0);
+        Check.due("no ride was refused", x.about(8), 0);
         x.copy(0);
         x.run(2);
         Check.due("ride", x.ride(0, 3), 0);
@@ -106,6 +107,42 @@ public final class ActionsTest {
         Check.due("now it is blocked", x.ride(1, 0), 3);
     }
 
+    // Promise 14, many counts of several accounts
+    private static void rideManyCounts() {
+        OfflineGates x = Check.day("Oi99i99i99c1");
+        x.set(1, 0);
+        x.set(3, 1);
+        x.fare(0, 1);
+        for (int i = 1; i <= 70; i++) {
+            Check.due("ride", x.ride(0, 0), 0);
+            Check.due("ride", x.ride(1, 0), 0);
+        }
+        Check.due("no doubles", x.about(5), 0);
+        Check.due("balance", x.account(0, 0), 29);
+        Check.due("counts", x.account(1, 2), 70);
+        for (int i = 1; i <= 70; i++) {
+            x.ride(3, 0);
+            x.ride(2, 0);
+            Check.due("doubles", x.about(5), i);
+            x.pay(1, 1);
+            x.pardon(1);
+        }
+        Check.due("no doubles of account 2", x.account(2, 2), 70);
+        Check.due("rides", x.about(3), 210);
+        OfflineGates y = Check.day("Oi90c0");
+        y.set(1, 0);
+        y.set(3, 0);
+        y.fare(0, 1);
+        for (int i = 1; i <= 40; i++) {
+            y.ride(0, 0);
+        }
+        for (int i = 1; i <= 40; i++) {
+            y.ride(1, 0);
+            Check.due("doubles of account 0", y.about(5), i);
+            y.pardon(0);
+        }
+    }
+
     // Promise 14, what is looked at first
     private static void rideOrder() {
         OfflineGates x = Check.day("Oi03c0r00r10");
@@ -118,8 +155,6 @@ public final class ActionsTest {
         x.pay(0, 99);
         x.pardon(0);
         Check.due("pause", x.ride(0, 0), 4);
-        x.run(4);
-        x.fare(0, 9);
         OfflineGates y = Check.day("Oi03r00");
         Check.due("pause before money", y.ride(0, 0), 4);
         y.run(4);
@@ -130,6 +165,14 @@ public final class ActionsTest {
         Check.due("just enough", y.ride(0, 0), 0);
         Check.due("money", y.card(0, 1), 0);
         Check.due("refused", y.about(8), 3);
+        y.set(1, 30);
+        y.pay(0, 20);
+        Check.due("a long pause", y.ride(0, 0), 4);
+        y.run(29);
+        Check.due("29 minutes", y.ride(0, 0), 4);
+        y.run(1);
+        Check.due("30 minutes", y.ride(0, 0), 0);
+        Check.due("30 minutes", y.ride(0, 0), 4);
         y.set(1, 0);
         y.down(0);
         Check.due("no pause at all", y.ride(0, 0), 1);
@@ -199,8 +242,6 @@ public final class ActionsTest {
         Check.due("money", x.card(0, 1), 26);
         Check.due("unwritten", x.about(9), 1);
         Check.due("refused", x.about(8), 1);
-        x.fare(0, 9);
-        x.set(0, 0);
         OfflineGates y = Check.day("Oi24d0");
         y.set(1, 0);
         y.set(0, 0);
@@ -399,6 +440,27 @@ public final class ActionsTest {
             Check.due("undo", x.undo(), i);
             Check.same("undo of action " + i, Check.picture(x), before[i]);
         }
+        x.open(3);
+        x.ride(1, 3);
+        x.undo();
+        Check.due("a card at an open gate", x.about(9), 0);
+        x.pay(0, 1);
+        x.ride(2, 0);
+        x.undo();
+        x.run(5);
+        x.ride(1, 0);
+        x.down(3);
+        String old = Check.picture(x);
+        x.up(3);
+        x.pay(0, 99);
+        x.pardon(0);
+        x.down(3);
+        x.undo();
+        x.undo();
+        x.undo();
+        x.undo();
+        Check.same("the list of a gate that is down", Check.picture(x), old);
+        Check.due("that list", x.gate(3, 4), 1);
         OfflineGates y = Check.day("Oi20c0r00");
         y.run(5);
         y.ride(0, 0);

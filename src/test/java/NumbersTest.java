@@ -89,6 +89,18 @@ public final class NumbersTest {
         Check.noSuch("account(2, 8)", () -> x.account(2, 8));
         Check.badArgument("account(0, -1)", () -> x.account(0, -1));
         Check.badArgument("account(0, 8)", () -> x.account(0, 8));
+        x.copy(0);
+        Check.due("its cards", x.account(0, 5), 3);
+        Check.due("its cards", x.account(1, 5), 2);
+        OfflineGates z = Check.day("Oi30i30d0d3r00r13r10");
+        z.run(5);
+        z.ride(1, 0);
+        Check.due("in the log of gate 0", z.account(0, 6), 1);
+        Check.due("in the logs of gates 0 and 3", z.account(1, 6), 2);
+        Check.due("their fares", z.account(0, 7), 2);
+        Check.due("their fares", z.account(1, 7), 4);
+        Check.due("all", z.about(6), 3);
+        Check.due("all fares", z.about(7), 6);
         OfflineGates y = Check.day("Oi01d0r00u0");
         Check.due("balance below 0", y.account(0, 0), -1);
         Check.due("not marked", y.account(0, 3), 0);

@@ -144,6 +144,15 @@ public final class ScriptsTest {
         Check.badArgument("m -1", () -> empty.simulate(1, -1));
         String[] days = {"O", "Oi50i40i30c0c1", "Oi99i99c0c1d0d1r00r11r20r31m09", "Oi50i50c0o1d2r02r12u2"};
         long[] seeds = {0, 1, -1, 42, 77777, Long.MIN_VALUE, Long.MAX_VALUE, 123456789012345L, -987654321L};
+        for (long seed = 100; seed < 300; seed++) {
+            OfflineGates x = Check.day("Oi30c0i20c2r00r10");
+            x.fare(1, 7);
+            x.fare(2, 9);
+            x.set(3, 1);
+            x.set(0, 0);
+            x.pardon(0);
+            Check.due("simulate(" + seed + ", 80)", x.simulate(seed, 80), byCalls(x, seed, 80));
+        }
         int most = 0;
         for (String day : days) {
             for (long seed : seeds) {

@@ -133,6 +133,11 @@ public final class TextTest {
         x.clearText();
 
         x.issue(7);
+        x.copy(0);
+        x.ride(0, 3);
+        x.ride(1, 3);
+        x.pay(0, 9);
+        x.down(0);
         x.set(0, 1);
         x.set(1, 2);
         x.set(2, 1);
@@ -202,5 +207,21 @@ public final class TextTest {
         x.load();
         Check.due("no doubles behind another load", x.about(5), 0);
         Check.due("settled", x.account(0, 2), 2);
+        OfflineGates y = Check.day("Oi05c0r00r10t033m09d0");
+        Check.due("marked", y.account(0, 3), 1);
+        y.clearText();
+        Check.write(y, "Oi99");
+        y.load();
+        int[] due = {99, 0, 0, 0, 0, 1, 0, 0};
+        for (int what = 0; what <= 7; what++) {
+            Check.due("a new account, " + what, y.account(0, what), due[what]);
+        }
+        Check.due("all the money", y.card(0, 1), 99);
+        OfflineGates z = Check.day("Oi99d0r00");
+        z.clearText();
+        Check.write(z, "Od0");
+        z.load();
+        Check.due("an empty log", z.gate(0, 3), 0);
+        Check.due("no rides in logs", z.about(6), 0);
     }
 }

@@ -117,6 +117,12 @@ public final class WouldBeTest {
         x.up(1);
         Check.due("those that are blocked already", x.ifUp(3, 2), 3);
         Check.due("those that are blocked already", x.ifUp(2, 2), 3);
+        x.set(1, 0);
+        x.pay(0, 99);
+        x.pardon(0);
+        x.ride(1, 2);
+        Check.due("doubles before do not count", x.ifUp(2, 1), 1);
+        Check.due("rides before do not count", x.ifUp(2, 0), 0);
     }
 
     // Promise 27
