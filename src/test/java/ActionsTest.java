@@ -1,5 +1,11 @@
 /** Promises 12 to 23: the actions, and undo. */
 public final class ActionsTest {
+    /** One action of each kind, and rides with several outcomes. */
+    private static final Check.Use[] ACTIONS = {
+        x -> x.issue(9), x -> x.copy(1), x -> x.ride(2, 0), x -> x.ride(2, 1), x -> x.pay(0, 30),
+        x -> x.down(0), x -> x.up(1), x -> x.pardon(0), x -> x.open(3), x -> x.ride(1, 3), x -> x.fare(2, 7),
+        x -> x.run(9), x -> x.set(3, 0), x -> x.ride(0, 0)};
+
     public static void main(String[] args) {
         issue();
         copy();
@@ -19,6 +25,8 @@ public final class ActionsTest {
         set();
         undo();
         undoOfEach();
+        undoOfLists();
+        undoOfCounts();
         Check.end();
     }
 
@@ -426,41 +434,43 @@ public final class ActionsTest {
     }
 
     private static void undoOfEach() {
-        OfflineGates x = Check.day("Oi20c0i30d1r01m05r00r10");
-        Runnable[] actions = {
-            () -> x.issue(9), () -> x.copy(1), () -> x.ride(2, 0), () -> x.ride(2, 1), () -> x.pay(0, 30),
-            () -> x.down(0), () -> x.up(1), () -> x.pardon(0), () -> x.open(3), () -> x.fare(2, 7),
-            () -> x.run(9), () -> x.set(3, 0), () -> x.ride(0, 0)};
-        String[] before = new String[actions.length];
-        for (int i = 0; i < actions.length; i++) {
-            before[i] = Check.picture(x);
-            actions[i].run();
+        int actions = ACTIONS.length;
+        for (int done = 0; done < actions; done++) {
+            OfflineGates x = day();
+            for (Check.Use action : ACTIONS) {
+                action.on(x);
+            }
+            for (int left = actions - 1; left >= done; left--) {
+                Check.due("undo", x.undo(), left);
+            }
+            OfflineGates y = day();
+            for (int i = 0; i < done; i++) {
+                ACTIONS[i].on(y);
+            }
+            Check.same("undo of action " + done, Check.picture(x), Check.picture(y));
         }
-        for (int i = actions.length - 1; i >= 0; i--) {
-            Check.due("undo", x.undo(), i);
-            Check.same("undo of action " + i, Check.picture(x), before[i]);
-        }
-        x.open(3);
-        x.ride(1, 3);
-        x.undo();
-        Check.due("a card at an open gate", x.about(9), 0);
-        x.pay(0, 1);
-        x.ride(2, 0);
-        x.undo();
-        x.run(5);
-        x.ride(1, 0);
-        x.down(3);
+    }
+
+    private static OfflineGates day() {
+        return Check.day("Oi20c0i30d1r01m05r00r10");
+    }
+
+    private static void undoOfLists() {
+        OfflineGates x = Check.day("Oi20c0i30r00r10d3");
         String old = Check.picture(x);
         x.up(3);
         x.pay(0, 99);
         x.pardon(0);
         x.down(3);
-        x.undo();
-        x.undo();
-        x.undo();
-        x.undo();
+        Check.due("the list", x.gate(3, 4), 0);
+        for (int left = 3; left >= 0; left--) {
+            Check.due("undo", x.undo(), left);
+        }
         Check.same("the list of a gate that is down", Check.picture(x), old);
         Check.due("that list", x.gate(3, 4), 1);
+    }
+
+    private static void undoOfCounts() {
         OfflineGates y = Check.day("Oi20c0r00");
         y.run(5);
         y.ride(0, 0);

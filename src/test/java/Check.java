@@ -7,6 +7,15 @@ final class Check {
         long answer();
     }
 
+    /** How an object is made, so that it can be made twice. */
+    interface Maker {
+        OfflineGates make();
+    }
+
+    interface Use {
+        long on(OfflineGates x);
+    }
+
     private Check() {
     }
 
@@ -64,32 +73,102 @@ final class Check {
         return x;
     }
 
-    /** All numbers that can be asked for, so that two objects can be compared. */
-    static String picture(OfflineGates x) {
-        StringBuilder s = new StringBuilder();
-        for (int w = 0; w <= 10; w++) {
-            s.append(x.about(w)).append(' ');
+    /** The call answers, whatever it is. */
+    static void answers(String what, Call call) {
+        asked++;
+        try {
+            call.answer();
+        } catch (RuntimeException e) {
+            wrong++;
+            System.out.println(what + " threw " + e + ", due is an answer");
         }
-        for (int c = 0; c < x.about(0); c++) {
+    }
+
+    /** The call throws exactly this class, and leaves all as in an object of which it was not asked. */
+    static void refused(String what, Class<? extends RuntimeException> want, Maker maker, Use use) {
+        OfflineGates x = maker.make();
+        dueThrow(what, want, () -> use.on(x));
+        same(what + " changes nothing", whole(x), whole(maker.make()));
+    }
+
+    /** The call answers, and leaves all as in an object of which it was not asked. */
+    static void changesNothing(String what, Maker maker, Use use) {
+        OfflineGates x = maker.make();
+        answers(what, () -> use.on(x));
+        same(what + " changes nothing", whole(x), whole(maker.make()));
+    }
+
+    /** All numbers that can be asked for, so that two objects can be compared: some 280 calls at most. */
+    static String picture(OfflineGates x) {
+        StringBuilder s = new StringBuilder(totals(x));
+        int cards = x.about(0);
+        int accounts = x.about(1);
+        for (int c = 0; c < cards; c++) {
+            s.append("\n      card ").append(c).append(':');
             for (int w = 0; w <= 3; w++) {
-                s.append(x.card(c, w)).append(' ');
+                s.append(' ').append(x.card(c, w));
             }
         }
-        for (int a = 0; a < x.about(1); a++) {
+        for (int a = 0; a < accounts; a++) {
+            s.append("\n      account ").append(a).append(':');
             for (int w = 0; w <= 7; w++) {
-                s.append(x.account(a, w)).append(' ');
+                s.append(' ').append(x.account(a, w));
             }
         }
         for (int g = 0; g < 4; g++) {
+            s.append("\n      gate ").append(g).append(':');
             for (int w = 0; w <= 4; w++) {
-                s.append(x.gate(g, w)).append(' ');
+                s.append(' ').append(x.gate(g, w));
             }
-            for (int k = 0; k < x.gate(g, 3); k++) {
-                for (int w = 0; w <= 2; w++) {
-                    s.append(x.logged(g, k, w)).append(' ');
-                }
+            int rides = x.gate(g, 3);
+            for (int k = 0; k < rides; k++) {
+                s.append(" (").append(x.logged(g, k, 0)).append(' ').append(x.logged(g, k, 1)).append(' ')
+                    .append(x.logged(g, k, 2)).append(')');
             }
-            s.append(x.setting(g)).append(' ');
+        }
+        return s.toString();
+    }
+
+    private static String totals(OfflineGates x) {
+        StringBuilder s = new StringBuilder("about:");
+        for (int w = 0; w <= 10; w++) {
+            s.append(' ').append(x.about(w));
+        }
+        s.append(", settings:");
+        for (int w = 0; w <= 3; w++) {
+            s.append(' ').append(x.setting(w));
+        }
+        return s.toString();
+    }
+
+    /**
+     * All that can be learnt of an object, the text, the remembered states and the slots, too. It uses the object up.
+     * Which counts were settled is told by the rides of a card: a double blocks it.
+     */
+    private static String whole(OfflineGates x) {
+        StringBuilder s = new StringBuilder(picture(x));
+        int cards = x.about(0);
+        for (int c = 0; c < cards; c++) {
+            s.append("\n      rides of ").append(c).append(':');
+            for (int g = 0; g < 4; g++) {
+                s.append(' ').append(x.rides(c, g));
+            }
+        }
+        s.append("\n      text: ").append(x.errorPosition()).append(' ').append(x.clearText());
+        boolean more = true;
+        while (more) {
+            try {
+                s.append("\n      undo: ").append(x.undo()).append(' ').append(totals(x));
+            } catch (IllegalStateException e) {
+                more = false;
+            }
+        }
+        for (int slot = 0; slot <= 1; slot++) {
+            try {
+                s.append("\n      slot: ").append(x.restore(slot)).append(' ').append(totals(x));
+            } catch (IllegalStateException e) {
+                s.append("\n      no slot ").append(slot);
+            }
         }
         return s.toString();
     }

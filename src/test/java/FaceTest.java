@@ -18,7 +18,7 @@ public final class FaceTest {
         Set<String> methods = new TreeSet<>();
         Set<String> names = new TreeSet<>();
         for (Method m : OfflineGates.class.getDeclaredMethods()) {
-            if (Modifier.isPrivate(m.getModifiers())) {
+            if (Modifier.isPrivate(m.getModifiers()) || m.isSynthetic()) {
                 continue;
             }
             methods.add(signature(m));
@@ -33,6 +33,7 @@ public final class FaceTest {
         for (Field f : OfflineGates.class.getDeclaredFields()) {
             Check.isTrue(f + " is private", f.getName().equals("NONE") || Modifier.isPrivate(f.getModifiers()));
         }
+        Check.due("NONE", OfflineGates.NONE, -1);
         Constructor<?>[] constructors = OfflineGates.class.getDeclaredConstructors();
         Check.due("constructors", constructors.length, 1);
         Check.isTrue("public constructor", Modifier.isPublic(constructors[0].getModifiers()));

@@ -2,7 +2,10 @@
 public final class NumbersTest {
     public static void main(String[] args) {
         about();
+        countsOfOutcomes();
+        countsOfFares();
         card();
+        minusOne();
         account();
         gate();
         logged();
@@ -56,6 +59,71 @@ public final class NumbersTest {
         Check.due("about(7)", x.about(7), 7);
     }
 
+    // Promise 6: "the rides that were refused so far", "how often a card was let through so far without anything being
+    // written": which outcomes count for which number
+    private static void countsOfOutcomes() {
+        OfflineGates x = Check.day("Oi99i09c1d1");
+        outcome(x, 0, 0, 0, new int[] {1, 0, 0, 0, 0});
+        outcome(x, 1, 0, 0, new int[] {2, 0, 0, 0, 0});
+        outcome(x, 2, 0, 0, new int[] {2, 1, 0, 0, 0});
+        outcome(x, 2, 0, 3, new int[] {2, 1, 0, 1, 0});
+        outcome(x, 0, 0, 4, new int[] {2, 1, 0, 2, 0});
+        x.fare(1, 9);
+        outcome(x, 2, 1, 4, new int[] {2, 1, 0, 3, 0});
+        x.set(1, 0);
+        outcome(x, 2, 1, 1, new int[] {2, 1, 1, 3, 0});
+        outcome(x, 2, 1, 5, new int[] {2, 1, 1, 4, 0});
+        x.fare(1, 1);
+        for (int i = 2; i <= 12; i++) {
+            outcome(x, 0, 1, 1, new int[] {2, 1, i, 4, 0});
+        }
+        outcome(x, 0, 1, 6, new int[] {2, 1, 12, 5, 0});
+        x.set(2, 1);
+        outcome(x, 0, 1, 7, new int[] {2, 1, 12, 5, 1});
+        x.open(1);
+        outcome(x, 0, 1, 2, new int[] {2, 1, 12, 5, 2});
+        Check.due("doubles: count 2 of card 2 is none", x.up(1), 0);
+        Check.due("settled", x.about(3), 14);
+        Check.due("doubles", x.about(5), 1);
+    }
+
+    private static void outcome(OfflineGates x, int c, int g, int due, int[] totals) {
+        String what = "ride(" + c + ", " + g + ")";
+        Check.due(what, x.ride(c, g), due);
+        Check.due(what + ": settled", x.about(3), totals[0]);
+        Check.due(what + ": doubles", x.about(5), totals[1]);
+        Check.due(what + ": in logs", x.about(6), totals[2]);
+        Check.due(what + ": refused", x.about(8), totals[3]);
+        Check.due(what + ": unwritten", x.about(9), totals[4]);
+    }
+
+    // Promise 6: "4: the fares of these together", "7: the fares of these together"
+    private static void countsOfFares() {
+        OfflineGates x = Check.day("Oi99c0d1d2");
+        int settled = 0;
+        int logged = 0;
+        x.set(1, 0);
+        for (int fare = 1; fare <= 9; fare++) {
+            x.fare(0, fare);
+            x.fare(1, 10 - fare);
+            x.ride(0, 0);
+            settled += fare;
+            Check.due("settled", x.about(4), settled);
+            if (fare <= 5) {
+                x.ride(0, 1);
+                logged += 10 - fare;
+            }
+            Check.due("in logs", x.about(7), logged);
+            Check.due("of account 0", x.account(0, 7), logged);
+        }
+        x.fare(0, 3);
+        x.ride(1, 0);
+        Check.due("the fare of a double is not among them", x.about(4), settled);
+        Check.due("no double comes up", x.up(1), 0);
+        Check.due("settled", x.about(4), settled + logged);
+        Check.due("in logs", x.about(7), 0);
+    }
+
     // Promise 7
     private static void card() {
         OfflineGates x = busy();
@@ -73,6 +141,21 @@ public final class NumbersTest {
         OfflineGates y = Check.day("Oi01d0r00");
         Check.due("money below 0", y.card(0, 1), -1);
         Check.due("ride in the minute 0", y.card(0, 3), 0);
+    }
+
+    // Promise 7: "the money on it (it may be the same as NONE)"; promise 8: "its balance (it may be the same as NONE)"
+    private static void minusOne() {
+        OfflineGates x = Check.day("Oi01d3r03");
+        Check.due("money", x.card(0, 1), -1);
+        Check.due("balance", x.account(0, 0), 1);
+        Check.due("up", x.up(3), 0);
+        Check.due("balance", x.account(0, 0), -1);
+        Check.due("pay", x.pay(0, 3), 2);
+        Check.due("a copy", x.copy(0), 1);
+        Check.due("its money", x.card(1, 1), -1);
+        x.run(5);
+        Check.due("-1 and 3 for 2", x.ride(1, 3), 0);
+        Check.due("money", x.card(1, 1), 0);
     }
 
     // Promise 8

@@ -4,8 +4,14 @@ public final class TextTest {
         newObject();
         append();
         clearText();
+        everyCode();
         errorPosition();
+        everyNextSign();
+        textsThatEndTooSoon();
+        firstOfSeveralErrors();
+        longTexts();
         load();
+        everyCommandLeftOut();
         Check.end();
     }
 
@@ -48,6 +54,31 @@ public final class TextTest {
         Check.badState("append to 120", () -> x.append('O'));
         Check.badArgument("append(256) to 120", () -> x.append(256));
         Check.due("full text", x.clearText(), 120);
+    }
+
+    // Promise 2: "character code, 0 to 255"
+    private static void everyCode() {
+        for (int c = 0; c <= 255; c++) {
+            OfflineGates x = new OfflineGates();
+            Check.due("append(" + c + ")", x.append(c), 1);
+            Check.due("a day of " + c, x.errorPosition(), c == 'O' ? -1 : 0);
+            Check.due("append('O')", x.append('O'), 2);
+            Check.due("a text of " + c, x.errorPosition(), c == 'O' ? 1 : 0);
+        }
+        OfflineGates y = new OfflineGates();
+        for (int i = 0; i < 130; i++) {
+            if (i < 120) {
+                Check.due("append", y.append(i * 2 % 256), i + 1);
+            } else {
+                Check.badState("append to 120 signs", () -> y.append('O'));
+            }
+        }
+        Check.due("120 signs", y.clearText(), 120);
+        Check.due("no sign", y.clearText(), 0);
+        for (int i = 1; i <= 120; i++) {
+            Check.due("room again", y.append('O'), i);
+        }
+        Check.badState("append to 120 signs again", () -> y.append('O'));
     }
 
     // Promise 3
@@ -119,6 +150,88 @@ public final class TextTest {
         Check.write(x, text);
         Check.due("errorPosition of '" + text + "'", x.errorPosition(), want);
         Check.due("the text stays", x.clearText(), text.length());
+    }
+
+    /** Behind each beginning of a day: all signs that are allowed there. */
+    private static final String[][] NEXT = {
+        {"", "O"}, {"O", "icrtduom"},
+        {"Oi", "0123456789"}, {"Oi0", "0123456789"}, {"Oi5", "0123456789"}, {"Oi9", "0123456789"}, {"Oi00", "icrtduom"},
+        {"Oi99", "icrtduom"},
+        {"Oc", "0123456789"}, {"Oc0", "icrtduom"}, {"Oc9", "icrtduom"},
+        {"Or", "0123456789"}, {"Or0", "0123"}, {"Or9", "0123"}, {"Or00", "icrtduom"}, {"Or93", "icrtduom"},
+        {"Ot", "01234567"}, {"Ot0", "0123456789"}, {"Ot7", "0123456789"}, {"Ot00", "123456789"}, {"Ot70", "123456789"},
+        {"Ot01", "0123456789"}, {"Ot79", "0123456789"}, {"Ot001", "icrtduom"}, {"Ot799", "icrtduom"},
+        {"Od", "0123"}, {"Ou", "0123"}, {"Oo", "0123"}, {"Od0", "icrtduom"}, {"Ou3", "icrtduom"}, {"Oo3", "icrtduom"},
+        {"Om", "0123456"}, {"Om0", "123456789"}, {"Om1", "0123456789"}, {"Om5", "0123456789"}, {"Om6", "0"},
+        {"Om01", "icrtduom"}, {"Om60", "icrtduom"},
+        {"Oi12c3r43t799d0u1o2m60", "icrtduom"}, {"Oi12c3r43t799d0u1o2m6", "0"}, {"Om60t0", "0123456789"}, {"Ot001r9", "0123"}};
+
+    // Promise 4: "the index of the first character that these rules do not allow at its place (a digit is not allowed if
+    // no number that is allowed begins with it and those before it)"
+    private static void everyNextSign() {
+        for (String[] k : NEXT) {
+            int length = k[0].length();
+            OfflineGates x = new OfflineGates();
+            for (int c = 0; c <= 255; c++) {
+                x.clearText();
+                if (c % 10 == 0) {
+                    x = new OfflineGates();
+                }
+                Check.write(x, k[0]);
+                x.append(c);
+                int got = x.errorPosition();
+                Check.isTrue("'" + k[0] + "' and the sign " + c + ": " + got, (got == length) == (k[1].indexOf(c) < 0));
+            }
+        }
+    }
+
+    // Promise 4: "if the text ends too soon, it is the length of the text"
+    private static void textsThatEndTooSoon() {
+        String day = "Oi12c3r43t799d0u1o2m60";
+        boolean[] whole = new boolean[day.length() + 1];
+        for (int end : new int[] {1, 4, 6, 9, 13, 15, 17, 19, 22}) {
+            whole[end] = true;
+        }
+        for (int n = 0; n <= day.length(); n++) {
+            error(day.substring(0, n), whole[n] ? -1 : n);
+        }
+    }
+
+    private static void firstOfSeveralErrors() {
+        error("xx", 0);
+        error("xO", 0);
+        error("OOO", 1);
+        error("Oxi", 1);
+        error("Om77", 2);
+        error("Om007", 3);
+        error("Om61m61", 3);
+        error("Or44", 3);
+        error("Or9", 3);
+        error("Ot8000", 2);
+        error("Od0d4d4", 4);
+        error("Oi0 0", 3);
+    }
+
+    // "The object has a text buffer of at most 120 characters."
+    private static void longTexts() {
+        String rides = "Oi00" + "r00".repeat(38);
+        error(rides + "d0", -1);
+        error(rides + "d4", 119);
+        error(rides + "dx", 119);
+        error(rides + "r0", 120);
+        error(rides + "0d", 118);
+        error(rides + "d", 119);
+        error("O" + "u0".repeat(59) + "u", 120);
+        error("O" + "u0".repeat(59) + "O", 119);
+        error("O" + "t001".repeat(29) + "t00", 120);
+        OfflineGates x = Check.day(rides + "d0");
+        Check.due("38 rides that were refused", x.about(8), 38);
+        Check.due("the last command", x.gate(0, 1), 0);
+        OfflineGates y = Check.day("Oi99" + "t099".repeat(29));
+        Check.due("29 payments", y.account(0, 0), 30 * 99);
+        OfflineGates z = new OfflineGates();
+        Check.write(z, "O" + "u0".repeat(59));
+        Check.due("59 are left out", z.load(), 59);
     }
 
     // Promise 5
@@ -223,5 +336,35 @@ public final class TextTest {
         z.load();
         Check.due("an empty log", z.gate(0, 3), 0);
         Check.due("no rides in logs", z.about(6), 0);
+    }
+
+    // Promise 5: "the number of commands that are left out"
+    private static void everyCommandLeftOut() {
+        String[][] cases = {
+            {"O", "0"}, {"Oi00", "0"}, {"Oi99", "0"},
+            {"Oc0", "1"}, {"Oi00c0", "0"}, {"Oi00c1", "1"}, {"Oi00c0c1c2", "0"}, {"Oc9i00c0", "1"},
+            {"Oi00c0c0c0c0c0c0c0c0c0", "0"}, {"Oi00c0c0c0c0c0c0c0c0c0c0", "1"}, {"Oi00c0c0c0c0c0c0c0c0c0i00", "1"},
+            {"Oi00i00i00i00i00i00i00i00", "0"}, {"Oi00i00i00i00i00i00i00i00i00", "1"}, {"Oi00i00i00i00i00i00i00i00c0c0", "0"},
+            {"Oi00i00i00i00i00i00i00i00c0c0c0", "1"}, {"Oi00i00i00i00i00i00i00c0c0c0i00", "1"}, {"Oi00i00i00i00i00i00i00c0c0i00", "0"},
+            {"Or00", "1"}, {"Oi00r00", "0"}, {"Oi00r03", "0"}, {"Oi00r10", "1"}, {"Oi00c0r10", "0"}, {"Oi00r90", "1"},
+            {"Ot001", "1"}, {"Oi00t001", "0"}, {"Oi00t099", "0"}, {"Oi00t101", "1"}, {"Oi00c0t101", "1"},
+            {"Oi00i00i00i00i00i00i00t701", "1"}, {"Oi00i00i00i00i00i00i00i00t701", "0"},
+            {"Od0", "0"}, {"Od0d0", "1"}, {"Od0d3", "0"}, {"Od0u0d0", "0"}, {"Ou0", "1"}, {"Ou3", "1"}, {"Od3u3", "0"},
+            {"Od3u3u3", "1"}, {"Oo0", "0"}, {"Oo0o0o0", "0"}, {"Oo3", "0"}, {"Om01", "0"}, {"Om60m60", "0"},
+            {"Oi05r00r00m04r00m01r00r00", "0"}, {"Oi00c1c1c1u1u2t999", null}};
+        for (String[] k : cases) {
+            OfflineGates x = new OfflineGates();
+            Check.write(x, k[0]);
+            if (k[1] == null) {
+                Check.badState("load of " + k[0], x::load);
+            } else {
+                Check.due("load of " + k[0], x.load(), Integer.parseInt(k[1]));
+                Check.due("the same again", x.load(), Integer.parseInt(k[1]));
+                Check.due("the text is kept", x.clearText(), k[0].length());
+            }
+        }
+        OfflineGates y = Check.day("Oi10c1t101u0d0d0r10m05");
+        OfflineGates z = Check.day("Oi10d0m05");
+        Check.same("what is left out changes nothing", Check.picture(y), Check.picture(z));
     }
 }
